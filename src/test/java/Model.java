@@ -1,6 +1,8 @@
 import java.util.ArrayList;
 import java.util.Arrays;
+import java.util.HashSet;
 import java.util.List;
+import java.util.Set;
 import java.util.TreeSet;
 
 /**
@@ -21,9 +23,24 @@ final class Model {
     }
 
     /** A piece in a packing. */
-    private record Laid(int number, int turn, int[] least, int[] size, int weight, int limit, int stop) {
-        List<Cell> cells() {
-            List<Cell> cells = new ArrayList<>();
+    private static final class Laid {
+        final int number;
+        final int turn;
+        final int[] least;
+        final int[] size;
+        final int weight;
+        final int limit;
+        final int stop;
+        final List<Cell> cells = new ArrayList<>();
+
+        Laid(int number, Told piece, int turn, int... least) {
+            this.number = number;
+            this.turn = turn;
+            this.least = least;
+            size = turned(piece.size, turn);
+            weight = piece.weight;
+            limit = piece.limit;
+            stop = piece.stop;
             for (int x = least[0]; x < least[0] + size[0]; x++) {
                 for (int y = least[1]; y < least[1] + size[1]; y++) {
                     for (int z = least[2]; z < least[2] + size[2]; z++) {
@@ -31,17 +48,28 @@ final class Model {
                     }
                 }
             }
-            return cells;
         }
 
         boolean isAbove(Laid other) {
-            return cells().stream().anyMatch(a -> other.cells().stream().anyMatch(
-                    b -> a.x == b.x && a.z == b.z && a.y > b.y));
+            for (Cell a : cells) {
+                for (Cell b : other.cells) {
+                    if (a.x == b.x && a.z == b.z && a.y > b.y) {
+                        return true;
+                    }
+                }
+            }
+            return false;
         }
 
         boolean isInFrontOf(Laid other) {
-            return cells().stream().anyMatch(a -> other.cells().stream().anyMatch(
-                    b -> a.x == b.x && a.y == b.y && a.z > b.z));
+            for (Cell a : cells) {
+                for (Cell b : other.cells) {
+                    if (a.x == b.x && a.y == b.y && a.z > b.z) {
+                        return true;
+                    }
+                }
+            }
+            return false;
         }
     }
 
@@ -185,7 +213,7 @@ final class Model {
     private static int used(List<Laid> laid) {
         int cells = 0;
         for (Laid piece : laid) {
-            cells += piece.cells().size();
+            cells += piece.cells.size();
         }
         return cells;
     }
@@ -215,8 +243,7 @@ final class Model {
             for (int y : starts(laid, 1)) {
                 for (int z : starts(laid, 2)) {
                     for (int x : starts(laid, 0)) {
-                        Laid next = new Laid(index + 1, turn, new int[] {x, y, z}, turned(piece.size, turn),
-                                piece.weight, piece.limit, piece.stop);
+                        Laid next = new Laid(index + 1, piece, turn, x, y, z);
                         if (fits(next, laid)) {
                             follow(index, next, laid);
                             if (ended) {
@@ -257,17 +284,16 @@ final class Model {
                 return false;
             }
         }
-        boolean[][][] full = new boolean[12][12][12];
+        Set<Cell> full = new HashSet<>();
         for (Laid piece : laid) {
-            for (Cell cell : piece.cells()) {
-                full[cell.x][cell.y][cell.z] = true;
-            }
+            full.addAll(piece.cells);
         }
-        for (Cell cell : next.cells()) {
-            if (full[cell.x][cell.y][cell.z]) {
+        for (Cell cell : next.cells) {
+            if (full.contains(cell)) {
                 return false;
             }
-            if (next.least[1] > 0 && cell.y == next.least[1] && !full[cell.x][cell.y - 1][cell.z]) {
+            if (next.least[1] > 0 && cell.y == next.least[1]
+                    && !full.contains(new Cell(cell.x, cell.y - 1, cell.z))) {
                 return false;
             }
         }
@@ -336,8 +362,8 @@ final class Model {
         if (one == null || other == null) {
             return false;
         }
-        List<Cell> common = one.cells();
-        common.retainAll(other.cells());
+        List<Cell> common = new ArrayList<>(one.cells);
+        common.retainAll(other.cells);
         return !common.isEmpty();
     }
 
@@ -348,7 +374,7 @@ final class Model {
         int number = 0;
         for (int y = 0; y < space[1]; y++) {
             for (Laid piece : packing) {
-                if (piece.cells().contains(new Cell(x, y, z))) {
+                if (piece.cells.contains(new Cell(x, y, z))) {
                     number = piece.number;
                 }
             }

@@ -2,7 +2,7 @@ import java.util.Random;
 
 /** All promises: long runs of calls, each answer held against the document's words followed cell by cell. */
 public final class ModelTest {
-    private static final int RUNS = 1500;
+    private static final int RUNS = 2000;
     private static final int CALLS = 60;
 
     private final Check check = new Check();
@@ -40,6 +40,9 @@ public final class ModelTest {
         space = new LoadSpace(width, height, depth);
         model = new Model(width, height, depth);
         int length = Math.min(12, Math.max(1, number % 3 == 0 ? 7 : most - between(0, 2)));
+        if (random.nextInt(3) > 0) {
+            tellMany(Math.max(1, Math.min(length, most / 2)));
+        }
         for (int i = 0; i < CALLS; i++) {
             if (random.nextInt(4) == 0) {
                 tell(length);
@@ -47,6 +50,23 @@ public final class ModelTest {
                 ask();
             }
         }
+        askAll();
+    }
+
+    /** Small pieces with close weights, limits and stops, so that many of them stand on and behind one another. */
+    private void tellMany(int length) {
+        int count = between(3, 6);
+        for (int piece = 1; piece <= count; piece++) {
+            int w = between(1, length), h = between(1, length), d = between(1, length), weight = between(1, 6);
+            due("piece " + w + " " + h + " " + d + " " + weight,
+                    space.piece(w, h, d, weight), model.piece(w, h, d, weight));
+            int mark = between(0, 2), limit = between(-5, 15), stop = between(0, 3);
+            due("turn " + piece + " " + mark, space.turn(piece, mark), model.turn(piece, mark));
+            due("limit " + piece + " " + limit, space.limit(piece, limit), model.limit(piece, limit));
+            due("order " + piece + " " + stop, space.order(piece, stop), model.order(piece, stop));
+        }
+        int steps = between(1, 300);
+        due("pack " + steps, space.pack(steps), model.pack(steps));
         askAll();
     }
 
@@ -91,7 +111,7 @@ public final class ModelTest {
             case 5 -> axle(mostly(0, 1), mostly(0, 1));
             case 6 -> {
                 int stop = random.nextBoolean() ? between(0, 2) : mostly(0, 9);
-                if (random.nextInt(3) == 0) {
+                if (random.nextInt(2) == 0) {
                     due("unload " + stop, space.unload(stop), model.unload(stop));
                 }
             }

@@ -101,7 +101,6 @@ public final class PackingTest {
         CHECK.due("12: within", y.above(1, 2), 1);
         CHECK.due("12: beside", y.above(2, 2), 0);
         CHECK.due("12: in front", y.above(1, 3), 0);
-        // A lower number may be the uppermost where the numbers go another way by place.
         LoadSpace z = new LoadSpace(2, 3, 1);
         z.piece(1, 2, 1, 1);
         z.piece(1, 1, 1, 1);

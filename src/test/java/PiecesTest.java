@@ -245,13 +245,14 @@ public final class PiecesTest {
         CHECK.due("5: behind one with the same stop", behind.pack(50), 4);
         behind.order(3, 2);
         CHECK.due("5: behind one with a less stop", behind.pack(50), 4);
-        // Before the third, at x 0 and z 2, there is nothing at z 1 between it and the first.
+        // In three steps the second comes beside the first; at x 0 and z 2 the third would have nothing
+        // between it and the first, and be in front of it all the same.
         LoadSpace gap = new LoadSpace(2, 1, 3);
         gap.piece(1, 1, 1, 1);
         gap.piece(1, 1, 2, 1);
         gap.piece(1, 1, 1, 1);
         gap.order(3, 1);
-        CHECK.due("5: in front, though not next to it", gap.pack(100), 3);
+        CHECK.due("5: in front, though not next to it", gap.pack(3), 3);
         CHECK.dueNotIn(gap, 3);
     }
 

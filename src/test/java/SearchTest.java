@@ -81,43 +81,27 @@ public final class SearchTest {
         CHECK.dueNotIn(y, 2);
     }
 
-    /** With one step more each time, the latest step's packing of two cubes shows where the second was put. */
+    /** With two steps the second piece is where it was put first. */
     private static void promise7OrderOfPlacings() {
-        int[][] order = {{1, 0, 0}, {0, 0, 1}, {1, 0, 1}, {0, 1, 0}};
-        LoadSpace x = cubes(new LoadSpace(2, 2, 2), 1, 1);
-        x.pack(2);
-        CHECK.dueAt(x, 2, order[0][0], order[0][1], order[0][2], 0);
-        // Behind a wall at x = 1 the least z comes before the least x: cubes that cannot go at 1, 0, 0.
-        LoadSpace y = new LoadSpace(2, 1, 2);
-        y.piece(1, 1, 1, 1);
-        y.piece(1, 1, 1, 1);
-        y.order(2, 1);
-        y.pack(100);
-        CHECK.dueAt(y, 2, 1, 0, 0, 0);
-        // One over the other is met behind all on the floor, though z and x are less.
-        LoadSpace z = cubes(new LoadSpace(2, 2, 2), 1, 1);
-        z.pack(100);
-        CHECK.dueAt(z, 2, 1, 0, 0, 0);
-        // The first turn with all its y comes before the next turn on the floor: both have 5 cells; only y tells.
-        LoadSpace w = new LoadSpace(3, 3, 1);
-        w.piece(3, 1, 1, 1);
-        w.piece(2, 1, 1, 1);
-        w.turn(2, 2);
-        w.pack(2);
-        CHECK.dueAt(w, 2, 0, 1, 0, 0);
-        // The order of z and x: the first of the packings with the same cells and weights is kept.
-        LoadSpace v = new LoadSpace(3, 1, 3);
-        v.piece(2, 1, 2, 1);
-        v.piece(1, 1, 1, 1);
-        v.order(1, 1);
-        v.pack(2);
-        CHECK.dueAt(v, 2, 2, 0, 0, 0);
-        LoadSpace u = new LoadSpace(2, 1, 3);
-        u.piece(2, 1, 1, 1);
-        u.piece(1, 1, 1, 1);
-        u.pack(2);
-        CHECK.dueAt(u, 2, 0, 0, 1, 0);
-        CHECK.due("7: steps of one more", steps(new LoadSpace(2, 2, 2), 100), 6);
+        LoadSpace zBeforeX = cubes(new LoadSpace(2, 2, 2), 1, 1);
+        zBeforeX.pack(2);
+        CHECK.dueAt(zBeforeX, 2, 1, 0, 0, 0);
+        LoadSpace yBeforeZ = cubes(new LoadSpace(1, 2, 2), 1, 1);
+        yBeforeZ.pack(2);
+        CHECK.dueAt(yBeforeZ, 2, 0, 0, 1, 0);
+        LoadSpace yBeforeX = cubes(new LoadSpace(2, 2, 1), 1, 1);
+        yBeforeX.pack(2);
+        CHECK.dueAt(yBeforeX, 2, 1, 0, 0, 0);
+        // By turn 0 the second goes on the first alone, by turn 4 beside it on the floor.
+        LoadSpace turnBeforeY = new LoadSpace(3, 2, 1);
+        turnBeforeY.piece(2, 1, 1, 1);
+        turnBeforeY.piece(2, 1, 1, 1);
+        turnBeforeY.turn(2, 2);
+        turnBeforeY.pack(2);
+        CHECK.dueAt(turnBeforeY, 2, 0, 1, 0, 0);
+        turnBeforeY.pack(100);
+        CHECK.dueAt(turnBeforeY, 2, 2, 0, 0, 4);
+        CHECK.due("7: all placings of two cubes", steps(new LoadSpace(2, 2, 2), 100), 6);
     }
 
     private static int steps(LoadSpace space, int steps) {
@@ -178,6 +162,14 @@ public final class SearchTest {
         CHECK.due("9: without a step", x.steps(false), 0);
         CHECK.dueNotIn(x, 1);
         CHECK.dueNoShare(x, 1, 1);
+        LoadSpace y = new LoadSpace(2, 1, 1);
+        y.piece(1, 1, 2, 1);
+        y.turn(1, 1);
+        CHECK.due("7: turned it goes in", y.pack(5), 2);
+        y.turn(1, 0);
+        CHECK.due("7: then nothing goes in", y.pack(5), 0);
+        CHECK.dueNotIn(y, 1);
+        CHECK.due("7: the packing before is gone", y.free(), 2);
     }
 
     private static void promise7LaterTellings() {
