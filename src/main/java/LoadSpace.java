@@ -105,6 +105,7 @@ public final class LoadSpace {
     }
 
     public boolean exact() {
+        // Without a search both are 0.
         return search.made < search.allowed;
     }
 
