@@ -2,13 +2,31 @@
 final class Check {
     private int right = 0;
     private int wrong = 0;
+    private int sentences = 0;
+    private int answersBefore = -1;
+    private String where = "";
+
+    /** What comes behind this belongs to these words of the document; a sentence without an answer is no test. */
+    void sentence(int promise, String words) {
+        endSentence();
+        sentences++;
+        answersBefore = right + wrong;
+        where = "promise " + promise + ", \"" + words + "\": ";
+    }
+
+    private void endSentence() {
+        if (right + wrong == answersBefore) {
+            wrong++;
+            System.out.println(where + "has no answer");
+        }
+    }
 
     void due(String call, long got, long want) {
         if (got == want) {
             right++;
         } else {
             wrong++;
-            System.out.println(call + " answered " + got + ", due is " + want);
+            System.out.println(where + call + " answered " + got + ", due is " + want);
         }
     }
 
@@ -17,7 +35,25 @@ final class Check {
     }
 
     void dueText(String what, String got, String want) {
-        due(what + " (is " + got + ", due is " + want + ")", got.equals(want), true);
+        if (got.equals(want)) {
+            right++;
+        } else {
+            wrong++;
+            int from = firstDifference(got, want);
+            System.out.println(where + what + " is .." + part(got, from) + ", due is .." + part(want, from));
+        }
+    }
+
+    private static int firstDifference(String a, String b) {
+        int at = 0;
+        while (at < a.length() && at < b.length() && a.charAt(at) == b.charAt(at)) {
+            at++;
+        }
+        return at;
+    }
+
+    private static String part(String text, int from) {
+        return text.substring(Math.max(0, from - 30), Math.min(text.length(), from + 60));
     }
 
     /** The share that an axle bears, as numerator and denominator. */
@@ -26,12 +62,13 @@ final class Check {
         due("axle(" + side + ", 1)", space.axle(side, 1), denominator);
     }
 
+    /** The program throws it itself; what the machine throws for a division does not count. */
     void dueNoShare(LoadSpace space, int side, int what) {
         boolean thrown = false;
         try {
             space.axle(side, what);
         } catch (ArithmeticException e) {
-            thrown = true;
+            thrown = !"/ by zero".equals(e.getMessage());
         }
         due("axle(" + side + ", " + what + ") throws ArithmeticException", thrown, true);
     }
@@ -49,7 +86,9 @@ final class Check {
     }
 
     void end() {
-        System.out.println(right + " answers as due, " + wrong + " not");
+        endSentence();
+        String of = sentences == 0 ? "" : " of " + sentences + " sentences";
+        System.out.println(right + " answers" + of + " as due, " + wrong + " not");
         if (wrong != 0 || right == 0) {
             System.exit(1);
         }

@@ -4,12 +4,16 @@ import java.util.Random;
 public final class ModelTest {
     private static final int RUNS = 2000;
     private static final int CALLS = 60;
+    // An object is used for at most 512 calls; asking all takes 32 of them.
+    private static final int MOST_CALLS = 512;
+    private static final int CALLS_TO_ASK_ALL = 32;
 
     private final Check check = new Check();
     private final Random random;
     private LoadSpace space;
     private Model model;
     private String run;
+    private int calls;
 
     private ModelTest(long seed) {
         random = new Random(seed);
@@ -37,20 +41,26 @@ public final class ModelTest {
         int height = between(number % 3 == 0 ? 0 : 1, most);
         int depth = between(number % 3 == 0 ? 0 : 1, most);
         run = "run " + number + " (" + width + ", " + height + ", " + depth + ") ";
+        calls = 0;
         space = new LoadSpace(width, height, depth);
         model = new Model(width, height, depth);
         int length = Math.min(12, Math.max(1, number % 3 == 0 ? 7 : most - between(0, 2)));
         if (random.nextInt(3) > 0) {
             tellMany(Math.max(1, Math.min(length, most / 2)));
         }
-        for (int i = 0; i < CALLS; i++) {
+        int mostTold = number % 40 == 0 ? MOST_CALLS : CALLS;
+        for (int i = 0; i < mostTold && calls < MOST_CALLS - 2 * CALLS_TO_ASK_ALL - 1; i++) {
             if (random.nextInt(4) == 0) {
                 tell(length);
             } else {
                 ask();
             }
         }
+        while (calls + CALLS_TO_ASK_ALL < MOST_CALLS && number % 40 == 0) {
+            ask();
+        }
         askAll();
+        check.due(run + "so many calls are enough", calls > MOST_CALLS, false);
     }
 
     /** Small pieces with close weights, limits and stops, so that many of them stand on and behind one another. */
@@ -160,6 +170,7 @@ public final class ModelTest {
     }
 
     private void due(String call, long got, long want) {
+        calls++;
         check.due(run + call, got, want);
     }
 }
