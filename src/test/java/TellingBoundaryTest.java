@@ -363,7 +363,7 @@ public final class TellingBoundaryTest {
         dueTurns(1, 2, 2, 1, 2);
         dueTurns(1, 1, 2, 3, 2);
         dueTurns(0, 1, 2, 3, 1);
-        // In the space 2, 1, 1 the piece 1, 2, 1 goes by 3 and by 5 alone, which make the same: it is the first of them.
+        // In the space 2, 1, 1 the piece 1, 2, 1 goes by 3 and by 5 alone, which make the same; 3 is the first.
         LoadSpace x = new LoadSpace(2, 1, 1);
         x.piece(1, 2, 1, 1);
         x.turn(1, 2);
