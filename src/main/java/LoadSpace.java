@@ -363,12 +363,6 @@ public final class LoadSpace {
             depth = piece.turnedDepth(next);
         }
 
-        void moveTo(int nextX, int nextY, int nextZ) {
-            x = nextX;
-            y = nextY;
-            z = nextZ;
-        }
-
         void copyFrom(Place other) {
             inside = other.inside;
             weight = other.weight;
@@ -378,7 +372,9 @@ public final class LoadSpace {
             width = other.width;
             height = other.height;
             depth = other.depth;
-            moveTo(other.x, other.y, other.z);
+            x = other.x;
+            y = other.y;
+            z = other.z;
         }
 
         int numberOn(int axis) {
@@ -624,7 +620,8 @@ public final class LoadSpace {
                 }
                 for (int z = 0; z <= mostZ && !hasEnded(); z++) {
                     if (hasBit(startsZ, z)) {
-                        place.moveTo(0, y, z);
+                        place.y = y;
+                        place.z = z;
                         seekInRow(index, place, startsX, mostX);
                     }
                 }
@@ -633,7 +630,7 @@ public final class LoadSpace {
 
         private void seekInRow(int index, Place place, int startsX, int mostX) {
             for (int x = 0; x <= mostX; x++) {
-                if (((startsX >> x) & 1) == 0) {
+                if (!hasBit(startsX, x)) {
                     continue;
                 }
                 place.x = x;

@@ -217,6 +217,10 @@ public final class PackingBoundaryTest {
             CHECK.due("unload(" + piece + ")", x.unload(piece), 1);
         }
         CHECK.due("above(0, 0), all taken out", x.above(0, 0), 0);
+        LoadSpace piles = withCubes(new LoadSpace(1, 3, 2), 1, 1, 1, 1, 1, 1);
+        piles.pack(6);
+        CHECK.due("the pile behind", piles.above(0, 0), 5);
+        CHECK.due("the pile in front", piles.above(0, 1), 6);
         LoadSpace y = fourthTurned();
         CHECK.due("above(0, 0)", y.above(0, 0), 2);
         CHECK.due("above(3, 2)", y.above(3, 2), 2);

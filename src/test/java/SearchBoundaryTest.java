@@ -493,6 +493,14 @@ public final class SearchBoundaryTest {
         LoadSpace z = withCubes(new LoadSpace(2, 2, 2), 1, 1);
         z.pack(500);
         CHECK.dueAt(z, 2, 1, 0, 0, 0);
+        LoadSpace fewer = new LoadSpace(2, 1, 1);
+        fewer.piece(2, 1, 1, 1);
+        withCubes(fewer, 1, 1).pack(500);
+        CHECK.due("one piece is met before two", fewer.at(1, 0), 0);
+        LoadSpace more = withCubes(new LoadSpace(2, 1, 1), 1, 1);
+        more.piece(2, 1, 1, 1);
+        more.pack(500);
+        CHECK.due("two pieces are met before one", more.at(2, 0), 1);
         // 2 over 1 and 3 over 1 have the same sum.
         LoadSpace same = withCubes(new LoadSpace(1, 2, 1), 9, 4, 4);
         same.pack(500);
